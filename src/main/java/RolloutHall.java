@@ -722,7 +722,6 @@ public final class RolloutHall {
         void startWith(int newBuild) {
             build = newBuild;
             ring = 0;
-            runsSince = 0;
             halted = false;
         }
     }
@@ -987,7 +986,6 @@ public final class RolloutHall {
             searches++;
             reached = 0;
             goal = NONE;
-            changes = 0;
             placeBuilds();
             findReady();
             int bits = 0;

@@ -109,6 +109,11 @@ final class DutyTest {
         Check.outOfRange("range goes ahead", () -> x.alert(0, 4));
         Check.due("one that is open", x.alert(1, 1), 11);
         Check.noSuch("no incident 12", () -> x.incident(12, 0));
+        x.build(0, 0);
+        x.begin(0);
+        Check.due("none of 12 is grave for it", x.step(0), 0);
+        Check.due("time goes on", x.pass(10), 10);
+        Check.due("the last one is paged", x.take(11, 0), 1);
     }
 
     private static void pages() {

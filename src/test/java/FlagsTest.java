@@ -50,6 +50,9 @@ final class FlagsTest {
         Check.notNow("there are 12", () -> x.flag(0, 50, 60, -1));
         Check.outOfRange("range goes ahead", () -> x.flag(0, 60, 50, -1));
         Check.noSuch("no flag 12", () -> x.kill(12));
+        Check.due("the last one is off", x.isOn(11, 0), false);
+        Check.due("the last one has one", x.resize(11, 11, 100), 1);
+        Check.notNow("the last one has the next", () -> x.resize(7, 7, 12));
     }
 
     private static void buckets() {

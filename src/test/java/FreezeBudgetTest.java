@@ -42,6 +42,14 @@ final class FreezeBudgetTest {
         x.build(0, 0);
         x.begin(0);
         Check.due("it holds", x.step(0), 1);
+        RolloutHall y = new RolloutHall();
+        y.service();
+        y.build(0, 0);
+        y.begin(0);
+        for (int told = 1; told <= 8; told++) {
+            y.freeze(-1, 5, 6);
+        }
+        Check.due("none of 8 holds", y.step(0), 0);
     }
 
     private static void except() {
@@ -93,6 +101,10 @@ final class FreezeBudgetTest {
         Check.due("another", x.used(1), 0f);
         x.requests(0, 3, false, 0, 0);
         Check.due("nothing more", x.used(0), 5000f / 56f);
+        RolloutHall z = withRunning();
+        z.budget(0, 1);
+        z.requests(0, 1, false, 0, 1);
+        Check.due("the least budget and one request", z.used(0), 1000f);
         RolloutHall y = withRunning();
         y.requests(0, 1, false, 0, 0);
         Check.due("none at all", y.used(0), 0f);

@@ -14,6 +14,7 @@ final class RollingTest {
         baking();
         missingData();
         worseCanary();
+        badOnesOfWhatRuns();
         orderOfReasons();
         back();
         backHalts();
@@ -321,6 +322,21 @@ final class RollingTest {
         gate(20, 0, 0, 20, 0);
         gate(700, 300, 750, 250, 0);
         gate(699, 300, 750, 250, 8);
+    }
+
+    /** The bad ones of what runs are counted over calls, and begin anew with the canary. */
+    private static void badOnesOfWhatRuns() {
+        RolloutHall x = withBuilds(2);
+        Halls.roll(x, 0, 4);
+        x.requests(0, 0, false, 0, 1000);
+        x.begin(1);
+        x.step(0);
+        x.requests(0, 0, true, 80, 20);
+        x.requests(0, 0, false, 85, 0);
+        x.requests(0, 0, false, 0, 10);
+        Check.due("20 of 100 by 10 of 95", x.step(0), 8);
+        x.requests(0, 0, false, 0, 5);
+        Check.due("20 of 100 by 15 of 100", x.step(0), 0);
     }
 
     private static void gate(int good, int bad, int otherGood, int otherBad, int want) {

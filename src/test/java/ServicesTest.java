@@ -11,6 +11,7 @@ final class ServicesTest {
         condemn();
         columns();
         columnsInUse();
+        columnWithAllBuilds();
         Check.end();
     }
 
@@ -210,5 +211,21 @@ final class ServicesTest {
         Check.due("in the ring 3 it is the former one", x.in(3, 0, 2), 0);
         Check.due("only former ones use it", x.column(1, -1), -1);
         Check.notNow("no roll-out is there", () -> x.back(0));
+    }
+
+    private static void columnWithAllBuilds() {
+        RolloutHall x = new RolloutHall();
+        x.service();
+        for (int build = 0; build < 24; build++) {
+            x.build(0, 0);
+        }
+        x.uses(23, 0);
+        x.column(0, 1);
+        x.column(0, 100);
+        x.begin(23);
+        x.step(0);
+        Check.notNow("the last build uses it", () -> x.column(0, -1));
+        x.back(0);
+        Check.due("none of 24 uses it", x.column(0, -1), -1);
     }
 }
