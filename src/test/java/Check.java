@@ -10,15 +10,21 @@ final class Check {
 
     private static final int SHOWN = 20;
     private static int wrong = 0;
+    private static String about = "";
 
     private Check() {
+    }
+
+    /** What the next ones are about, to be told with each wrong answer. */
+    static void about(String words) {
+        about = words;
     }
 
     static void due(String what, Object got, Object want) {
         if (!want.equals(got)) {
             wrong++;
             if (wrong <= SHOWN) {
-                System.out.println(what + " answered " + got + ", due is " + want);
+                System.out.println(about + what + " answered " + got + ", due is " + want);
             }
         }
     }

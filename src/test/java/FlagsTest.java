@@ -130,7 +130,7 @@ final class FlagsTest {
         y.flag(1, 0, 50, 0);
         y.flag(2, 0, 100, 1);
         y.flag(2, 100, 100, 0);
-        for (int user = 0; user < 200; user++) {
+        for (int user = 0; user < 150; user++) {
             boolean first = bucket(user, 0) < 50;
             boolean second = first && bucket(user, 1) < 50;
             Check.due("first of " + user, y.isOn(0, user), first);

@@ -3,6 +3,7 @@ import java.util.TreeMap;
 
 /** Long runs of chance calls, the same ones each time, on the class and on the model. */
 final class ModelTest {
+    /** What an object answers after so many calls is free. */
     private static final int CALLS = 512;
     private static final int[] WILD = {-2, -1, 0, 1, 4, 5, 9, 10, 11, 12, 24, 99, 100, 101, 999, 1000, 1001,
         9999, 10000, Integer.MAX_VALUE, Integer.MIN_VALUE};
@@ -11,6 +12,7 @@ final class ModelTest {
     private final RolloutHall x = new RolloutHall();
     private final Model m = new Model();
     private final String run;
+    private int calls;
     private static final TreeMap<String, Integer> ANSWERS = new TreeMap<>();
 
     private ModelTest(int seed) {
@@ -45,7 +47,7 @@ final class ModelTest {
 
     private void compare(int kind) {
         prepare(kind);
-        for (int call = m.services.size() + 20; call < CALLS; call++) {
+        for (int call = 0; call < CALLS; call++) {
             if (random.nextInt(100) < 3) {
                 wildCall(call);
             } else if (kind < 2) {
@@ -99,6 +101,10 @@ final class ModelTest {
     }
 
     private void both(String what, Check.Call ours, Check.Call theirs) {
+        if (calls == CALLS) {
+            return;
+        }
+        calls++;
         Object want = Check.outcome(theirs);
         Check.due(run + what, Check.outcome(ours), want);
         String[] words = what.split(" ");
