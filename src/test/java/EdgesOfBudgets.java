@@ -300,6 +300,8 @@ final class EdgesOfBudgets extends Edges {
         due("all bad ones", all.used(0), 1f);
         all.budget(0, 1);
         due("of the least budget", all.used(0), 1000f);
+        RolloutHall one = hall(EdgesOfBudgets::running, y -> y.requests(0, 0, false, 0, 1), y -> y.budget(0, 1));
+        due("one request and the least budget", one.used(0), 1000f);
         RolloutHall many = hall(EdgesOfBudgets::running, times(400, y -> y.requests(0, 0, false, 1000, 1000)));
         many.requests(0, 0, false, 0, 1);
         due("400001 of 800001", many.used(0), (float) 400001000L / (float) 800001000L);

@@ -304,6 +304,7 @@ final class EdgesOfSteps extends Edges {
             due("closed", hall(begun, x -> x.alert(0, told), ended(0, 0)).step(0), 0);
             due("from 0 on", hall(begun, x -> x.alert(0, 0), x -> x.alert(0, told)).step(0), want[severity]);
         }
+        due("12, all closed", hall(begun, times(12, x -> ended(x.alert(0, 3), 0).to(x))).step(0), 0);
         due("the last of 12", hall(begun, times(11, x -> ended(x.alert(0, 3), 0).to(x)), x -> x.alert(0, 2)).step(0), 2);
     }
 
